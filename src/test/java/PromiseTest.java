@@ -154,6 +154,7 @@ public final class PromiseTest {
         }
         fails(STATE, "in the ground", () -> t.addBody(50, 15, 8, 8));
         fails(STATE, "beyond the right side", () -> t.addBody(381, 16, 4, 4));
+        fails(STATE, "at the last column", () -> t.addBody(383, 16, 4, 4));
         eq("no body yet", t.count(0), 0);
         t.tick(1);
         eq("first", t.addBody(380, 16, 4, 4), 0);
@@ -168,17 +169,25 @@ public final class PromiseTest {
         for (int what = 0; what < due.length; what++) {
             eq("number " + what + " of a new body", t.body(1, what), due[what]);
         }
-        t.removeBody(0);
-        t.press(1, 4);
-        t.tick(3);
-        t.removeBody(2);
-        t.removeBody(1);
-        t.removeBody(0);
-        t.addBody(50, 16, 8, 8);
-        t.press(0, 4);
-        t.tick(1);
-        eq("no key was pressed in the tick before", t.statistic(0, 2), 1);
-        eq("statistics begin anew", t.statistic(0, 5), 1);
+        fails(STATE, "with four bodies, in the ground", () -> t.addBody(50, 15, 8, 8));
+        TileRunners again = world(".....o..", FLAT);
+        again.addBody(80, 20, 8, 8);
+        again.press(0, 6);
+        again.push(0, 9, -3);
+        again.tick(2);
+        eq("it has a coin", again.statistic(0, 0), 1);
+        again.removeBody(0);
+        again.addBody(50, 17, 8, 8);
+        for (int what = 2; what < 10; what++) {
+            eq("number " + what + " in place of an old body", again.body(0, what), what == 7 || what == 8 ? 8 : 0);
+        }
+        for (int what = 0; what < 7; what++) {
+            eq("statistic " + what + " in place of an old body", again.statistic(0, what), what == 6 ? 17 : 0);
+        }
+        fails(ArithmeticException.class, "no tick in place of an old body", () -> again.meanMoves(0));
+        again.press(0, 4);
+        again.tick(1);
+        eq("no key was pressed in the tick before", again.body(0, 5), 3);
     }
 
     private static void removeBody() {
@@ -199,6 +208,41 @@ public final class PromiseTest {
         eq("remaining", t.removeBody(0), 1);
         eq("remaining", t.removeBody(0), 0);
         fails(INDEX, "none left", () -> t.removeBody(0));
+        TileRunners later = new TileRunners();
+        later.addBody(10, 50, 4, 4);
+        later.addBody(20, 10, 5, 5);
+        later.removeBody(0);
+        later.tick(10);
+        eq("deaths of the later one", later.statistic(0, 1), 1);
+        place("where it was added", later, 20, 10);
+    }
+
+    /** Four bodies on four platforms, the most that there can be, in all that goes over all of them. */
+    private static void fullWorld() {
+        TileRunners t = world(FLAT);
+        for (int i = 0; i < 4; i++) {
+            eq("body", t.addBody(20 + 80 * i, 60, 8, 8), i);
+            eq("platform", t.addPlatform(10 + 80 * i, 60, 30, i - 2, 0, 50), i);
+        }
+        eq("tile", t.setTile(0, 13, 10), 0);
+        eq("prediction", t.predict(3, 0, 2, 0), 262);
+        t.save();
+        t.tick(3);
+        for (int i = 0; i < 4; i++) {
+            eq("carried by its own platform", t.body(i, 0), 20 + 80 * i + 3 * (i - 2));
+            eq("seen", t.look(20 + 80 * i + 3 * (i - 2), 60), 100 + i);
+            eq("platform seen", t.look(20 + 80 * i, 59), 200 + i);
+        }
+        eq("nothing seen", t.look(383, 100), 0);
+        eq("undone", t.undo(), 2);
+        t.restore();
+        eq("bodies", t.count(0), 4);
+        eq("platforms", t.count(1), 4);
+        eq("bodies left", t.removeBody(1), 3);
+        eq("platforms left", t.removePlatform(1), 3);
+        eq("third body", t.body(2, 0), 260);
+        eq("third platform", t.platform(2, 0), 250);
+        eq("tick", t.tick(1), 1);
     }
 
     private static void body() {
@@ -339,6 +383,7 @@ public final class PromiseTest {
         flat.tick(1);
         eq("run speed", flat.body(0, 2), 3);
         eq("no jump without late time", flat.statistic(0, 2), 0);
+        eq("nor a fall", flat.statistic(0, 3), 0);
         flat.press(0, 0);
         flat.tick(3);
         flat.set(2, 1);
@@ -545,6 +590,12 @@ public final class PromiseTest {
         gap.press(0, 4);
         gap.tick(1);
         eq("no wall", gap.statistic(0, 2), 0);
+        TileRunners leftGap = new TileRunners();
+        leftGap.setTile(5, 6, 1);
+        leftGap.addBody(97, 100, 8, 8);
+        leftGap.press(0, 4);
+        leftGap.tick(1);
+        eq("no wall on the left", leftGap.statistic(0, 2), 0);
         TileRunners slide = new TileRunners();
         slide.addBody(376, 200, 8, 8);
         slide.press(0, 2);
@@ -614,12 +665,29 @@ public final class PromiseTest {
         lift.press(0, 12);
         lift.tick(1);
         place("through a platform", lift, 44, 49);
+        TileRunners jump = world("..=.....................");
+        jump.addBody(40, 16, 8, 12);
+        jump.press(0, 4);
+        jump.tick(1);
+        eq("without down it jumps", jump.body(0, 1), 25);
+        jump.press(0, 8);
+        jump.tick(1);
+        jump.press(0, 12);
+        jump.tick(1);
+        eq("no drop in the air", jump.body(0, 6), 0);
+        TileRunners run = world("..=#....................");
+        run.addBody(44, 16, 8, 12);
+        run.press(0, 14);
+        run.tick(1);
+        eq("on ground it stands until it jumps", run.body(0, 2), 2);
         TileRunners twice = world("..=.....................", "........................", "..=.....................");
         twice.addBody(40, 48, 8, 12);
         twice.press(0, 12);
         twice.tick(8);
         eq("still dropping", twice.body(0, 6), 1);
         eq("through both floors", twice.body(0, 1), 48 - 36);
+        twice.tick(1);
+        eq("not any more", twice.body(0, 6), 0);
     }
 
     private static void beltsAndSprings() {
@@ -648,6 +716,15 @@ public final class PromiseTest {
         eq("landings", spring.statistic(0, 3), 1);
         spring.tick(1);
         place("off the spring, which is no jump of its own", spring, 36, 31);
+        TileRunners jump = world(".^^.....................");
+        jump.addBody(20, 16, 8, 8);
+        jump.press(0, 4);
+        jump.tick(2);
+        jump.press(0, 0);
+        jump.tick(11);
+        speeds("on the spring behind a jump", jump, 0, 16);
+        jump.tick(1);
+        speeds("which is not cut", jump, 0, 15);
         TileRunners still = world("..^.....................");
         still.addBody(36, 16, 8, 8);
         still.tick(2);
@@ -700,7 +777,23 @@ public final class PromiseTest {
         low.push(0, 0, 0);
         low.tick(1);
         eq("y -41 is not", low.body(0, 1), 0);
+        speeds("dead", low, 0, 0);
         eq("deaths", low.statistic(0, 1), 1);
+        TileRunners ground = world("...x....................", FLAT);
+        ground.addBody(36, 16, 8, 8);
+        ground.press(0, 2);
+        ground.tick(1);
+        eq("late counter", ground.body(0, 4), 4);
+        ground.tick(1);
+        eq("dead on the ground", ground.statistic(0, 1), 1);
+        eq("late counter", ground.body(0, 4), 0);
+        TileRunners hole = world("..=.....................", "..x.....................");
+        hole.addBody(36, 32, 8, 8);
+        hole.press(0, 12);
+        hole.tick(6);
+        eq("dead in a drop", hole.statistic(0, 1), 1);
+        eq("drop counter", hole.body(0, 6), 0);
+        place("on the floor again", hole, 36, 32);
     }
 
     private static void slopes() {
@@ -741,6 +834,14 @@ public final class PromiseTest {
         back.press(0, 1);
         back.tick(9);
         eq("a slope is a wall from behind", back.body(0, 0), 44);
+        speeds("stopped", back, 0, 0);
+        eq("moves", back.statistic(0, 4), 16);
+        TileRunners corner = new TileRunners();
+        corner.setTile(5, 6, 4);
+        corner.addBody(70, 110, 8, 8);
+        corner.addBody(70, 111, 8, 8);
+        eq("a surface two units higher", corner.clearance(0, 1), 5);
+        eq("a surface one unit higher", corner.clearance(1, 1), 376 - 70);
         TileRunners air = world("./......................");
         air.addBody(20, 30, 8, 8);
         air.tick(9);
@@ -794,6 +895,25 @@ public final class PromiseTest {
         deep.tick(2);
         place("carried down", deep, 70, 36);
         yes("stands", deep.stands(0));
+        TileRunners slow = new TileRunners();
+        slow.addPlatform(60, 40, 40, -1, -1, 10);
+        slow.addBody(70, 40, 8, 8);
+        slow.tick(2);
+        place("carried down slowly", slow, 68, 38);
+        eq("it stood in each tick", slow.statistic(0, 5), 2);
+        TileRunners rising = new TileRunners();
+        rising.addPlatform(60, 40, 40, 1, 0, 10);
+        rising.addBody(70, 40, 8, 8);
+        rising.push(0, 0, 1);
+        rising.tick(1);
+        place("not carried with the speed 1", rising, 70, 40);
+        TileRunners drops = new TileRunners();
+        drops.addPlatform(60, 40, 40, 1, 0, 10);
+        drops.addPlatform(60, 39, 40, 2, 0, 10);
+        drops.addBody(70, 40, 8, 8);
+        drops.press(0, 12);
+        drops.tick(2);
+        place("not carried while it drops", drops, 71, 37);
         TileRunners edge = new TileRunners();
         edge.addPlatform(60, 40, 16, 0, 0, 10);
         edge.addBody(53, 40, 8, 8);
@@ -867,6 +987,50 @@ public final class PromiseTest {
         t.tick(1);
         eq("behind a new tick", t.undo(), 10);
         eq("and the one before", t.undo(), 9);
+        undoOfCounters();
+    }
+
+    /** Undoes one tick ahead of which all counters are greater than 0, and one within a rise. */
+    private static void undoOfCounters() {
+        TileRunners t = world("..=.....................");
+        t.addBody(36, 16, 8, 8);
+        t.press(0, 12);
+        t.tick(1);
+        t.press(0, 0);
+        t.tick(1);
+        t.press(0, 4);
+        t.tick(1);
+        int[] due = {36, 16 - 1 - 2 - 3, 0, -3, 0, 3, 6};
+        t.tick(7);
+        for (int n = 0; n < 7; n++) {
+            t.undo();
+        }
+        for (int what = 0; what < due.length; what++) {
+            eq("number " + what + " behind undo", t.body(0, what), due[what]);
+        }
+        t.tick(12);
+        place("it died and went where it was added", t, 36, 16);
+        TileRunners late = world(FLAT);
+        late.addBody(36, 16, 8, 8);
+        late.tick(1);
+        late.push(0, 0, 16);
+        late.tick(3);
+        late.undo();
+        eq("late counter", late.body(0, 4), 2);
+        TileRunners rise = world(FLAT);
+        rise.addBody(36, 16, 8, 8);
+        rise.press(0, 4);
+        rise.tick(1);
+        rise.push(0, 0, 8);
+        rise.press(0, 0);
+        rise.undo();
+        rise.press(0, 4);
+        rise.tick(2);
+        rise.push(0, 0, 8);
+        rise.undo();
+        rise.press(0, 0);
+        rise.tick(1);
+        speeds("its own rise comes back and is cut", rise, 0, 3);
     }
 
     private static void clock() {
@@ -966,6 +1130,11 @@ public final class PromiseTest {
         TileRunners edge = world("/.......................");
         edge.addBody(0, 3, 16, 8);
         yes("cells beside the world count beside a slope, too", edge.isBlocked(0, -1, 0));
+        TileRunners other = new TileRunners();
+        other.setTile(23, 0, 4);
+        other.addBody(368, 3, 16, 8);
+        no("at the right side", other.isBlocked(0, 0, 0));
+        yes("beyond it", other.isBlocked(0, 1, 0));
     }
 
     private static void clearance() {
@@ -1032,6 +1201,7 @@ public final class PromiseTest {
         eq("tile", t.look(32, 0), 10);
         eq("its last cell", t.look(47, 15), 10);
         eq("corner", t.look(383, 223), 0);
+        eq("other corner", t.look(0, 0), 0);
         int[][] outside = {{-1, 0}, {384, 0}, {0, -1}, {0, 224}};
         for (int[] cell : outside) {
             fails(ARGUMENT, "outside", () -> t.look(cell[0], cell[1]));
@@ -1054,6 +1224,9 @@ public final class PromiseTest {
         eq("to the left side", t.ray(10, 40, 2), 11);
         eq("up and out", t.ray(10, 0, 1), -1);
         eq("down and out", t.ray(10, 223, 3), -1);
+        eq("the last column", t.ray(383, 100, 0), 1);
+        t.setTile(0, 13, 8);
+        eq("in the highest row", t.ray(10, 223, 1), 0);
         fails(ARGUMENT, "direction -1", () -> t.ray(0, 0, -1));
         fails(ARGUMENT, "direction 4", () -> t.ray(0, 0, 4));
         int[][] outside = {{-1, 0}, {384, 0}, {0, -1}, {0, 224}};
@@ -1096,6 +1269,7 @@ public final class PromiseTest {
         eq("a jump", t.apex(0, 4, 40), 61);
         eq("its beginning", t.apex(0, 4, 2), 16 + 9 + 8);
         eq("no jump", t.apex(0, 0, 40), 16);
+        eq("one tick", t.apex(0, 4, 1), 25);
         place("nothing changes", t, 40, 16);
         TileRunners air = new TileRunners();
         air.addBody(100, 100, 8, 8);
@@ -1232,6 +1406,13 @@ public final class PromiseTest {
         place("behind the play", t, 51 + 3 + 5 + 5, 16 + 9 + 8);
         eq("the last input stays", t.body(0, 9), 6);
         eq("each tick can be undone", t.undo(), 5);
+        write(t, "l0n0r0n0n0l0r0r0l0l0n1n1n1n1n1n1n1n1n1r1");
+        eq("twenty commands", t.play(0), 10);
+        eq("the last one", t.body(0, 9), 2);
+        for (int n = 0; n < 10; n++) {
+            t.undo();
+        }
+        eq("the clock as before", t.clock(), 5);
         write(t, "n99n99n2");
         eq("200 ticks", t.play(0), 200);
         write(t, "r1n99n99n2");
@@ -1317,6 +1498,15 @@ public final class PromiseTest {
         t.tick(1);
         t.restore();
         eq("the later snapshot", t.clock(), 5);
+        TileRunners dies = new TileRunners();
+        dies.addBody(30, 10, 8, 8);
+        dies.save();
+        dies.removeBody(0);
+        dies.addBody(90, 50, 8, 8);
+        dies.restore();
+        dies.tick(10);
+        eq("it died", dies.statistic(0, 1), 1);
+        place("where the restored one was added", dies, 30, 10);
     }
 
     private static void restoreWithout() {
@@ -1342,6 +1532,7 @@ public final class PromiseTest {
         check("promise 3", () -> tile());
         check("promise 4", () -> addBody());
         check("promise 5", () -> removeBody());
+        check("promises 4 to 11, a full world", () -> fullWorld());
         check("promise 6", () -> body());
         check("promise 7", () -> press());
         check("promise 8", () -> push());
