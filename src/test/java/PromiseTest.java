@@ -2,78 +2,7 @@
  * Each promise of the document by hand: ordinary inputs, the edges that the document names, and wrong inputs. The
  * answers that are due were worked out from the document, not taken from the program.
  */
-public final class PromiseTest {
-    private static final Class<? extends Exception> INDEX = IndexOutOfBoundsException.class;
-    private static final Class<? extends Exception> ARGUMENT = IllegalArgumentException.class;
-    private static final Class<? extends Exception> STATE = IllegalStateException.class;
-    private static final String FLAT = "########################";
-
-    private static int wrong = 0;
-    private static String promise = "";
-
-    private interface Call {
-        void run();
-    }
-
-    private static void eq(String what, long got, long due) {
-        if (got != due) {
-            wrong++;
-            System.out.println(promise + ": " + what + " is " + got + ", due is " + due);
-        }
-    }
-
-    private static void yes(String what, boolean holds) {
-        eq(what, holds ? 1 : 0, 1);
-    }
-
-    private static void no(String what, boolean holds) {
-        eq(what, holds ? 1 : 0, 0);
-    }
-
-    private static void fails(Class<? extends Exception> due, String what, Call call) {
-        String got = "nothing";
-        try {
-            call.run();
-        } catch (RuntimeException e) {
-            got = e.getClass().getSimpleName();
-        }
-        if (!got.equals(due.getSimpleName())) {
-            wrong++;
-            System.out.println(promise + ": " + what + " throws " + got + ", due is " + due.getSimpleName());
-        }
-    }
-
-    private static void write(TileRunners t, String text) {
-        for (int i = 0; i < text.length(); i++) {
-            t.append(text.charAt(i));
-        }
-    }
-
-    /** A world of rows of tiles, the highest one first. */
-    private static TileRunners world(String... rows) {
-        TileRunners t = new TileRunners();
-        for (int i = 0; i < rows.length; i++) {
-            write(t, rows[i]);
-            t.readTiles(0, rows.length - 1 - i);
-        }
-        return t;
-    }
-
-    private static void place(String what, TileRunners t, int x, int y) {
-        eq(what + ": x", t.body(0, 0), x);
-        eq(what + ": y", t.body(0, 1), y);
-    }
-
-    private static void speeds(String what, TileRunners t, int horizontal, int vertical) {
-        eq(what + ": horizontal speed", t.body(0, 2), horizontal);
-        eq(what + ": vertical speed", t.body(0, 3), vertical);
-    }
-
-    /** Whether undo is refused, that is, whether the kept worlds are forgotten. */
-    private static void forgotten(String what, TileRunners t) {
-        fails(STATE, "undo behind " + what, () -> t.undo());
-    }
-
+public final class PromiseTest extends Checks {
     // ---- Promises 1 to 13 ----
 
     private static void newObject() {
@@ -184,7 +113,7 @@ public final class PromiseTest {
         for (int what = 0; what < 7; what++) {
             eq("statistic " + what + " in place of an old body", again.statistic(0, what), what == 6 ? 17 : 0);
         }
-        fails(ArithmeticException.class, "no tick in place of an old body", () -> again.meanMoves(0));
+        fails(ARITHMETIC, "no tick in place of an old body", () -> again.meanMoves(0));
         again.press(0, 4);
         again.tick(1);
         eq("no key was pressed in the tick before", again.body(0, 5), 3);
@@ -939,7 +868,7 @@ public final class PromiseTest {
         fails(INDEX, "body 1", () -> t.tickUntilStanding(1, 0));
         t.press(0, 4);
         t.tick(1);
-        fails(java.util.NoSuchElementException.class, "in the air", () -> t.tickUntilStanding(0, 17));
+        fails(ELEMENT, "in the air", () -> t.tickUntilStanding(0, 17));
         eq("the ticks have passed", t.clock(), 21);
         eq("one more", t.tickUntilStanding(0, 1), 1);
         TileRunners exact = world(FLAT);
@@ -970,7 +899,7 @@ public final class PromiseTest {
         eq("coins left", t.count(3), 1);
         eq("platform", t.platform(0, 0), 200);
         eq("its ticks", t.platform(0, 5), 2);
-        fails(ArithmeticException.class, "no tick has passed", () -> t.meanMoves(0));
+        fails(ARITHMETIC, "no tick has passed", () -> t.meanMoves(0));
         eq("settings stay", t.set(0, 5), 9);
         forgotten("the first world", t);
         t.tick(20);
@@ -1307,12 +1236,12 @@ public final class PromiseTest {
 
     private static void meanMoves() {
         TileRunners t = runner(FLAT);
-        fails(ArithmeticException.class, "no tick", () -> t.meanMoves(0));
+        fails(ARITHMETIC, "no tick", () -> t.meanMoves(0));
         t.press(0, 2);
         t.tick(3);
         yes("11 moves in 3 ticks", t.meanMoves(0) == 11f / 3f);
         t.addBody(100, 16, 8, 8);
-        fails(ArithmeticException.class, "no tick since it was added", () -> t.meanMoves(1));
+        fails(ARITHMETIC, "no tick since it was added", () -> t.meanMoves(1));
         t.tick(1);
         yes("16 moves in 4 ticks", t.meanMoves(0) == 4f);
         yes("no moves", t.meanMoves(1) == 0f);
@@ -1416,7 +1345,7 @@ public final class PromiseTest {
         write(t, "n99n99n2");
         eq("200 ticks", t.play(0), 200);
         write(t, "r1n99n99n2");
-        fails(UnsupportedOperationException.class, "201 ticks", () -> t.play(0));
+        fails(UNSUPPORTED, "201 ticks", () -> t.play(0));
         eq("no fault", t.faultPosition(), -1);
         eq("nothing is carried out", t.clock(), 205);
         fails(ARGUMENT, "the buffer was emptied", () -> t.play(0));
@@ -1516,16 +1445,6 @@ public final class PromiseTest {
         eq("nothing forgotten", t.undo(), 0);
     }
 
-    private static void check(String name, Call call) {
-        promise = name;
-        try {
-            call.run();
-        } catch (RuntimeException e) {
-            wrong++;
-            System.out.println(name + ": stopped by " + e);
-        }
-    }
-
     public static void main(String[] args) {
         check("promise 1", () -> newObject());
         check("promise 2", () -> setTile());
@@ -1574,9 +1493,6 @@ public final class PromiseTest {
         check("promise 33", () -> faultPosition());
         check("promises 34 and 35", () -> saveAndRestore());
         check("promise 35", () -> restoreWithout());
-        System.out.println(wrong == 0 ? "all promises are kept" : wrong + " answers are not as due");
-        if (wrong != 0) {
-            System.exit(1);
-        }
+        finish("all promises are kept");
     }
 }
