@@ -259,6 +259,7 @@ public final class DescriptionTest extends Checks {
         for (int[] a : at) {
             eq("at " + a[0] + "," + a[1], supportAt(t, a[0], a[1], 8, 8), a[2]);
         }
+        eq("a tall body in the row of the floor", supportAt(t, 160, 80, 8, 28), 0);
         TileRunners top = withBody(160, 223, 8, 8);
         top.setTile(10, 13, 2);
         top.push(0, 0, 3);
