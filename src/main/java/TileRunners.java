@@ -74,7 +74,8 @@ public final class TileRunners {
 
     // Stands for no platform, no row of tiles and no fault of a text.
     private static final int NONE = -1;
-    private static final int NO_SURFACE = Integer.MIN_VALUE;
+    // Far below every y that a body can have.
+    private static final int NO_SURFACE = -1000000;
 
     private final World world = new World();
     private final World trial = new World();
